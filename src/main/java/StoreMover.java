@@ -32,7 +32,7 @@ public final class StoreMover {
     private final Parts copy;
     /** One couple serves every turning, so that no call makes an object. */
     private final Couple couple;
-    private char now;
+    private char phase;
     private int followed;
     private int nextEven;
     private int nextOdd;
@@ -46,7 +46,7 @@ public final class StoreMover {
         secondLog = new Log();
         copy = new Parts();
         couple = new Couple();
-        now = IDLE;
+        phase = IDLE;
         followed = 0;
         nextEven = 0;
         nextOdd = 1;
@@ -59,7 +59,7 @@ public final class StoreMover {
         if (!Steps.isStep(kind, n)) {
             throw new IllegalArgumentException("no such step");
         }
-        if (now != IDLE || steps.isFull()) {
+        if (phase != IDLE || steps.isFull()) {
             throw new IllegalStateException("no step can be added any more");
         }
         steps.append(kind, n);
@@ -67,42 +67,42 @@ public final class StoreMover {
     }
 
     public int start() throws IllegalStateException {
-        if (now != IDLE) {
+        if (phase != IDLE) {
             throw new IllegalStateException("it was started before");
         }
-        now = COPYING;
+        phase = COPYING;
         return source.count();
     }
 
     public char phase() {
-        return now;
+        return phase;
     }
 
     public int goToBoth() throws IllegalStateException, UnsupportedOperationException {
-        if (now != COPYING) {
+        if (phase != COPYING) {
             throw new IllegalStateException("it is not copying");
         }
         if (copy.keysLeft() > 0 || copy.waiting() > 0) {
             throw new UnsupportedOperationException("the first copy is not complete");
         }
         int count = followUpTo(MOST_CHANGES);
-        now = BOTH;
+        phase = BOTH;
         return count;
     }
 
     public int switchOver() throws IllegalStateException, UnsupportedOperationException {
-        if (now != BOTH) {
+        if (phase != BOTH) {
             throw new IllegalStateException("not both stores are written");
         }
         if (target.isAnyAside() || !areSumsSame(0, KEYS - 1)) {
             throw new UnsupportedOperationException("the stores are not alike");
         }
-        now = SWITCHED;
+        phase = SWITCHED;
         return target.countEntries();
     }
 
     public int goBack() throws IllegalStateException, UnsupportedOperationException {
-        if (now != SWITCHED) {
+        if (phase != SWITCHED) {
             throw new IllegalStateException("it is not switched");
         }
         if (!canComeBack()) {
@@ -116,15 +116,15 @@ public final class StoreMover {
             }
         }
         secondLog.clear();
-        now = BOTH;
+        phase = BOTH;
         return changed;
     }
 
     public int end() throws IllegalStateException {
-        if (now != SWITCHED) {
+        if (phase != SWITCHED) {
             throw new IllegalStateException("it is not switched");
         }
-        now = DONE;
+        phase = DONE;
         return secondLog.size();
     }
 
@@ -132,20 +132,21 @@ public final class StoreMover {
 
     public boolean write(int key, int one, int other)
             throws IllegalArgumentException, IllegalStateException {
+        // When done, nothing is written, yet it is the target's numbers that are out of range then.
         int limit = isTargetLive() ? ENTRY_LIMIT : ROW_LIMIT;
         if (!isKey(key) || !isWithin(one, limit) || !isWithin(other, limit)) {
             throw new IllegalArgumentException("no such key, or no such number");
         }
-        if (now == DONE || isLogFull()) {
+        if (phase == DONE || isLogFull()) {
             throw new IllegalStateException("nothing can be written any more");
         }
         boolean wasThere = isLive(key);
-        if (now == SWITCHED) {
+        if (phase == SWITCHED) {
             target.putEntry(key, one, other, firstLog.size());
             secondLog.appendRow(key, one, other);
         } else {
             source.put(key, one, other);
-            if (now != IDLE) {
+            if (phase != IDLE) {
                 firstLog.appendRow(key, one, other);
             }
             followAtOnce();
@@ -155,7 +156,7 @@ public final class StoreMover {
 
     public boolean delete(int key) throws IllegalArgumentException, IllegalStateException {
         checkKey(key);
-        if (now == DONE) {
+        if (phase == DONE) {
             throw new IllegalStateException("nothing can be deleted any more");
         }
         if (!isLive(key)) {
@@ -164,12 +165,12 @@ public final class StoreMover {
         if (isLogFull()) {
             throw new IllegalStateException("the log is full");
         }
-        if (now == SWITCHED) {
+        if (phase == SWITCHED) {
             target.putTrace(key, firstLog.size());
             secondLog.appendDeletion(key);
         } else {
             source.remove(key);
-            if (now != IDLE) {
+            if (phase != IDLE) {
                 firstLog.appendDeletion(key);
             }
             followAtOnce();
@@ -187,10 +188,10 @@ public final class StoreMover {
     }
 
     public int nextNumber() throws IllegalStateException {
-        if (now == DONE) {
+        if (phase == DONE) {
             throw new IllegalStateException("no number is given out any more");
         }
-        if (now == SWITCHED) {
+        if (phase == SWITCHED) {
             nextOdd += 2;
             return nextOdd - 2;
         }
@@ -204,7 +205,7 @@ public final class StoreMover {
         if (keys < 1 || keys > KEYS) {
             throw new IllegalArgumentException("no such number of keys");
         }
-        if (now != COPYING || copy.keysLeft() == 0 || copy.waiting() >= MOST_WAITING) {
+        if (phase != COPYING || copy.keysLeft() == 0 || copy.waiting() >= MOST_WAITING) {
             throw new IllegalStateException("no part can be read");
         }
         return copy.take(source, keys, firstLog.size());
@@ -231,7 +232,7 @@ public final class StoreMover {
         if (changes < 1 || changes > MOST_CHANGES) {
             throw new IllegalArgumentException("no such number of changes");
         }
-        if (now != COPYING) {
+        if (phase != COPYING) {
             throw new IllegalStateException("it is not copying");
         }
         return followUpTo(changes);
@@ -309,7 +310,7 @@ public final class StoreMover {
 
     public char goal(int key) throws IllegalArgumentException, IllegalStateException {
         checkKey(key);
-        if (now != COPYING && now != BOTH) {
+        if (phase != COPYING && phase != BOTH) {
             throw new IllegalStateException("the source is not being moved");
         }
         if (!source.has(key)) {
@@ -364,7 +365,7 @@ public final class StoreMover {
     }
 
     private boolean isTargetLive() {
-        return now == SWITCHED || now == DONE;
+        return phase == SWITCHED || phase == DONE;
     }
 
     private boolean isLive(int key) {
@@ -372,14 +373,14 @@ public final class StoreMover {
     }
 
     private boolean isLogFull() {
-        if (now == IDLE) {
+        if (phase == IDLE) {
             return false;
         }
-        return now == SWITCHED ? secondLog.isFull() : firstLog.isFull();
+        return phase == SWITCHED ? secondLog.isFull() : firstLog.isFull();
     }
 
     private void followAtOnce() {
-        if (now == BOTH) {
+        if (phase == BOTH) {
             followUpTo(MOST_CHANGES);
         }
     }

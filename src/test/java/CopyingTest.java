@@ -10,6 +10,7 @@ public final class CopyingTest {
         partsThatCannotBeRead();
         eightPartsWait();
         aPartHasItsRowsAsTheyWere();
+        aPartHasItsOwnKeysAlone();
         aPartHasTheStampOfItsReading();
         partsArePutDownInAnyOrderOnce();
         partsThatDoNotWait();
@@ -98,6 +99,19 @@ public final class CopyingTest {
         Check.same("state", mover.state(1), 'u');
         Check.same("the deleted one is there", mover.state(2), 't');
         Check.same("the new one is not", mover.state(3), 's');
+    }
+
+    private static void aPartHasItsOwnKeysAlone() {
+        StoreMover mover = new StoreMover();
+        mover.write(0, 1, 1);
+        mover.write(1, 1, 1);
+        mover.start();
+        mover.readPart(1);
+        mover.delete(1);
+        mover.readPart(1);
+        Check.same("the first key", mover.putDown(0), 1);
+        Check.same("the second one was gone", mover.putDown(1), 0);
+        Check.same("state", mover.state(1), 'n');
     }
 
     private static void aPartHasTheStampOfItsReading() {

@@ -5,8 +5,10 @@ public final class FiguresTest {
     public static void main(String[] args) {
         withoutRowsAndEntries();
         movedShare();
+        theOnlyRowIsMoved();
         theTargetAloneIsNoShare();
         meanStamp();
+        meanStampOfTheFirstAndTheLastKey();
         Check.end();
     }
 
@@ -48,6 +50,15 @@ public final class FiguresTest {
         Check.same("isAllMoved", mover.isAllMoved(), false);
     }
 
+    private static void theOnlyRowIsMoved() {
+        StoreMover mover = new StoreMover();
+        mover.write(0, 1, 1);
+        Check.same("none", mover.isAllMoved(), false);
+        Movers.toBoth(mover);
+        Check.same("the only one", mover.isAllMoved(), true);
+        Check.same("the only one", mover.movedShare(), 1.0f);
+    }
+
     private static void theTargetAloneIsNoShare() {
         StoreMover mover = new StoreMover();
         mover.write(0, 1, 1);
@@ -78,5 +89,15 @@ public final class FiguresTest {
         Check.same("nothing aside", mover.meanStamp(), 0.5);
         mover.write(5, 1, 1);
         Check.same("0, 1, 6", mover.meanStamp(), 7.0 / 3.0);
+    }
+
+    private static void meanStampOfTheFirstAndTheLastKey() {
+        StoreMover mover = Movers.in('b');
+        mover.write(0, 1, 1);
+        mover.write(1, 1, 1);
+        mover.write(0, 1, 1);
+        mover.write(39, 1, 1);
+        mover.delete(1);
+        Check.same("3 and 4", mover.meanStamp(), 3.5);
     }
 }
