@@ -149,7 +149,9 @@ public final class StoreMover {
             if (phase != IDLE) {
                 firstLog.appendRow(key, one, other);
             }
-            followAtOnce();
+            if (phase == BOTH) {
+                followNext();
+            }
         }
         return wasThere;
     }
@@ -173,7 +175,9 @@ public final class StoreMover {
             if (phase != IDLE) {
                 firstLog.appendDeletion(key);
             }
-            followAtOnce();
+            if (phase == BOTH) {
+                followNext();
+            }
         }
         return true;
     }
@@ -301,7 +305,20 @@ public final class StoreMover {
         if (areSumsSame(low, high)) {
             throw new NoSuchElementException("no key of the range differs");
         }
-        return halveToUnlike(low, high);
+        int from = low;
+        int to = high;
+        for (int halvings = 0; halvings < KEYS && from < to; halvings++) {
+            int middle = from + (to - from) / 2;
+            rangesCompared++;
+            if (areSumsSame(from, middle)) {
+                // As sums add, those of the second half differ; they count as compared all the same.
+                from = middle + 1;
+                rangesCompared++;
+            } else {
+                to = middle;
+            }
+        }
+        return from;
     }
 
     public int compared() {
@@ -377,12 +394,6 @@ public final class StoreMover {
             return false;
         }
         return phase == SWITCHED ? secondLog.isFull() : firstLog.isFull();
-    }
-
-    private void followAtOnce() {
-        if (phase == BOTH) {
-            followUpTo(MOST_CHANGES);
-        }
     }
 
     private int followUpTo(int most) {
@@ -478,8 +489,12 @@ public final class StoreMover {
         if (!isInTarget) {
             return 's';
         }
-        return turnRow(key) && target.holds(key, couple.number(false), couple.number(true))
-                ? 'e' : 'u';
+        return turnRow(key) && isEntryAsCouple(key) ? 'e' : 'u';
+    }
+
+    private boolean isEntryAsCouple(int key) {
+        return target.number(key, false) == couple.number(false)
+                && target.number(key, true) == couple.number(true);
     }
 
     private int countMoved() {
@@ -522,26 +537,6 @@ public final class StoreMover {
         return sumOfRange(true, low, high) == sumOfRange(false, low, high);
     }
 
-    /**
-     * Wants a range whose sums differ. If those of its first half are the same, those of its
-     * second half differ, as sums add; they count as compared all the same.
-     */
-    private int halveToUnlike(int low, int high) {
-        int from = low;
-        int to = high;
-        for (int halvings = 0; halvings < KEYS && from < to; halvings++) {
-            int middle = from + (to - from) / 2;
-            rangesCompared++;
-            if (areSumsSame(from, middle)) {
-                from = middle + 1;
-                rangesCompared++;
-            } else {
-                to = middle;
-            }
-        }
-        return from;
-    }
-
     /** Two numbers on their way through the steps. */
     private static final class Couple {
         private int one;
@@ -557,37 +552,44 @@ public final class StoreMover {
         }
 
         boolean areBothWithin(int limit) {
-            return isWithin(one, limit) && isWithin(other, limit);
+            return one >= -limit && one <= limit && other >= -limit && other <= limit;
         }
 
-        void increase(int n) {
-            one += n;
-        }
-
-        void multiply(int n) {
-            one *= n;
-        }
-
-        boolean divide(int n) {
-            if (n == 0 || one % n != 0) {
-                return false;
-            }
-            one /= n;
-            return true;
-        }
-
-        void exchange() {
+        void step(char kind, int n) {
             int oldOne = one;
-            one = other;
-            other = oldOne;
+            if (kind == 'p') {
+                one += n;
+            } else if (kind == 'm') {
+                one *= n;
+            } else if (kind == 'n') {
+                one = -one;
+            } else if (kind == 'x') {
+                one = other;
+                other = oldOne;
+            } else {
+                other += one;
+            }
         }
 
-        void addToOther() {
-            other += one;
-        }
-
-        void takeFromOther() {
-            other -= one;
+        /** Answers whether this leaves no rest. */
+        boolean stepBack(char kind, int n) {
+            int oldOne = one;
+            if (kind == 'm') {
+                if (n == 0 || one % n != 0) {
+                    return false;
+                }
+                one /= n;
+            } else if (kind == 'p') {
+                one -= n;
+            } else if (kind == 'n') {
+                one = -one;
+            } else if (kind == 'x') {
+                one = other;
+                other = oldOne;
+            } else {
+                other -= one;
+            }
+            return true;
         }
     }
 
@@ -625,7 +627,7 @@ public final class StoreMover {
 
         boolean turn(Couple couple) {
             for (int i = 0; i < size && i < MOST_STEPS; i++) {
-                step(couple, kinds[i], numbers[i]);
+                couple.step(kinds[i], numbers[i]);
                 if (!couple.areBothWithin(STEP_LIMIT)) {
                     return false;
                 }
@@ -635,41 +637,11 @@ public final class StoreMover {
 
         boolean turnBack(Couple couple) {
             for (int i = MOST_STEPS - 1; i >= 0; i--) {
-                if (i < size && !stepBack(couple, kinds[i], numbers[i])) {
+                if (i < size && !couple.stepBack(kinds[i], numbers[i])) {
                     return false;
                 }
             }
             return couple.areBothWithin(ROW_LIMIT);
-        }
-
-        private static void step(Couple couple, char kind, int n) {
-            if (kind == 'p') {
-                couple.increase(n);
-            } else if (kind == 'm') {
-                couple.multiply(n);
-            } else if (kind == 'n') {
-                couple.multiply(-1);
-            } else if (kind == 'x') {
-                couple.exchange();
-            } else {
-                couple.addToOther();
-            }
-        }
-
-        private static boolean stepBack(Couple couple, char kind, int n) {
-            if (kind == 'm') {
-                return couple.divide(n);
-            }
-            if (kind == 'p') {
-                couple.increase(-n);
-            } else if (kind == 'n') {
-                couple.multiply(-1);
-            } else if (kind == 'x') {
-                couple.exchange();
-            } else {
-                couple.takeFromOther();
-            }
-            return true;
         }
     }
 
@@ -721,13 +693,18 @@ public final class StoreMover {
 
     /** The target: a key has an entry, or is aside, or has a trace, or nothing, and so no stamp. */
     private static final class Target {
-        private final Rows entries = new Rows();
-        private final boolean[] stamped = new boolean[KEYS];
-        private final boolean[] aside = new boolean[KEYS];
+        private static final int NOTHING = 0;
+        private static final int ENTRY = 1;
+        private static final int ASIDE = 2;
+        private static final int TRACE = 3;
+
+        private final int[] kinds = new int[KEYS];
         private final int[] stamps = new int[KEYS];
+        private final int[] ones = new int[KEYS];
+        private final int[] others = new int[KEYS];
 
         boolean isStamped(int key) {
-            return isKey(key) && stamped[key];
+            return isKey(key) && kinds[key] != NOTHING;
         }
 
         int stampOf(int key) {
@@ -739,38 +716,42 @@ public final class StoreMover {
         }
 
         boolean isAside(int key) {
-            return isKey(key) && aside[key];
+            return isKey(key) && kinds[key] == ASIDE;
         }
 
         boolean isAnyAside() {
-            for (int key = 0; key < KEYS; key++) {
-                if (aside[key]) {
-                    return true;
-                }
-            }
-            return false;
+            return count(ASIDE) > 0;
         }
 
         boolean hasEntry(int key) {
-            return entries.has(key);
+            return isKey(key) && kinds[key] == ENTRY;
         }
 
         int number(int key, boolean isSecond) {
-            return entries.number(key, isSecond);
-        }
-
-        boolean holds(int key, int one, int other) {
-            return entries.holds(key, one, other);
+            if (!isKey(key)) {
+                return 0;
+            }
+            return isSecond ? others[key] : ones[key];
         }
 
         int countEntries() {
-            return entries.count();
+            return count(ENTRY);
+        }
+
+        private int count(int kind) {
+            int count = 0;
+            for (int key = 0; key < KEYS; key++) {
+                if (kinds[key] == kind) {
+                    count++;
+                }
+            }
+            return count;
         }
 
         int addStamps() {
             int sum = 0;
             for (int key = 0; key < KEYS; key++) {
-                if (entries.has(key)) {
+                if (kinds[key] == ENTRY) {
                     sum += stamps[key];
                 }
             }
@@ -778,23 +759,25 @@ public final class StoreMover {
         }
 
         void putEntry(int key, int one, int other, int stamp) {
-            putTrace(key, stamp);
-            entries.put(key, one, other);
-        }
-
-        void putAside(int key, int stamp) {
-            putTrace(key, stamp);
             if (isKey(key)) {
-                aside[key] = true;
+                kinds[key] = ENTRY;
+                ones[key] = one;
+                others[key] = other;
+                stamps[key] = stamp;
             }
         }
 
-        /** A trace is a stamp without more, so that what comes upon it needs no clearing. */
+        void putAside(int key, int stamp) {
+            put(key, ASIDE, stamp);
+        }
+
         void putTrace(int key, int stamp) {
-            entries.remove(key);
+            put(key, TRACE, stamp);
+        }
+
+        private void put(int key, int kind, int stamp) {
             if (isKey(key)) {
-                aside[key] = false;
-                stamped[key] = true;
+                kinds[key] = kind;
                 stamps[key] = stamp;
             }
         }
