@@ -12,11 +12,13 @@ public final class CopyingTest {
         aPartHasItsRowsAsTheyWere();
         aPartHasItsOwnKeysAlone();
         aPartHasTheStampOfItsReading();
+        aPartIsReadWithoutTouchingThoseThatWait();
         partsArePutDownInAnyOrderOnce();
         partsThatDoNotWait();
         rowsAsideAreCounted();
         anOlderRowGivesWay();
         anEqualStampStays();
+        theStampOfItsOwnKeyDecides();
         aTraceIsAStampToo();
         follow();
         followInOrder();
@@ -135,6 +137,26 @@ public final class CopyingTest {
         Check.same("stamp", mover.stamp(2), 2);
     }
 
+    private static void aPartIsReadWithoutTouchingThoseThatWait() {
+        StoreMover mover = withAllRows();
+        mover.start();
+        mover.readPart(5);
+        for (int key = 0; key < 10; key++) {
+            mover.write(key, key, 20);
+        }
+        mover.readPart(2);
+        Check.same("the first part", mover.putDown(0), 5);
+        mover.readPart(40);
+        mover.write(9, 9, 30);
+        Check.same("the third part", mover.putDown(2), 33);
+        Check.same("the second part", mover.putDown(1), 2);
+        for (int key = 0; key < 40; key++) {
+            boolean isOld = key < 5 || key > 9;
+            Check.same("row of " + key, mover.turnedBack(key, true), isOld ? 1 : 20);
+            Check.same("stamp of " + key, mover.stamp(key), key < 5 ? 0 : 10);
+        }
+    }
+
     private static void partsArePutDownInAnyOrderOnce() {
         StoreMover mover = new StoreMover();
         for (int key = 0; key < 6; key++) {
@@ -225,6 +247,46 @@ public final class CopyingTest {
         Check.same("follow", other.follow(2), 2);
         Check.same("stamp", other.stamp(1), 2);
         Check.same("the older change left nothing", other.state(1), 'e');
+    }
+
+    /** The other keys have greater stamps in the first tool, and lesser ones in the second. */
+    private static void theStampOfItsOwnKeyDecides() {
+        for (boolean isDeletion : new boolean[] {false, true}) {
+            StoreMover early = withAllRows();
+            early.start();
+            early.putDown(early.readPart(1));
+            change(early, 0, isDeletion);
+            change(early, 30, isDeletion);
+            early.putDown(early.readPart(39));
+            early.follow(1);
+            Check.same("the change goes", early.state(0), isDeletion ? 'n' : 'e');
+            Check.same("its stamp", early.stamp(0), 1);
+            StoreMover late = withAllRows();
+            late.start();
+            late.putDown(late.readPart(5));
+            change(late, 5, isDeletion);
+            late.write(5, 60, 60);
+            late.putDown(late.readPart(35));
+            late.follow(1);
+            Check.same("the change stays out", late.state(5), 'e');
+            Check.same("its stamp", late.stamp(5), 2);
+        }
+    }
+
+    private static void change(StoreMover mover, int key, boolean isDeletion) {
+        if (isDeletion) {
+            mover.delete(key);
+        } else {
+            mover.write(key, 50, 50);
+        }
+    }
+
+    private static StoreMover withAllRows() {
+        StoreMover mover = new StoreMover();
+        for (int key = 0; key < 40; key++) {
+            mover.write(key, key, 1);
+        }
+        return mover;
     }
 
     private static void aTraceIsAStampToo() {

@@ -19,6 +19,7 @@ public final class StepsAndPhasesTest {
         switchOverWithAKeyAside();
         goBack();
         goBackCountsKeysThatChange();
+        goBackComparesBothNumbers();
         goBackThatCannotBe();
         bothAgainAfterGoingBack();
         end();
@@ -251,6 +252,23 @@ public final class StepsAndPhasesTest {
         Check.same("nothing of 8", mover.state(8), 'n');
         mover.switchOver();
         Check.same("goBack at once", mover.goBack(), 0);
+    }
+
+    private static void goBackComparesBothNumbers() {
+        int[][] rows = {{5, 7}, {5, 5}, {7, 5}, {7, 7}};
+        for (int[] row : rows) {
+            for (int[] entry : rows) {
+                StoreMover mover = new StoreMover();
+                mover.write(4, row[0], row[1]);
+                Movers.toTarget(mover);
+                mover.write(4, entry[0], entry[1]);
+                String what = "goBack from " + row[0] + ", " + row[1] + " to " + entry[0] + ", " + entry[1];
+                boolean isSame = row[0] == entry[0] && row[1] == entry[1];
+                Check.same(what, mover.goBack(), isSame ? 0 : 1);
+                Check.same("a behind " + what, mover.read(4, false), entry[0]);
+                Check.same("b behind " + what, mover.read(4, true), entry[1]);
+            }
+        }
     }
 
     private static void goBackThatCannotBe() {
